@@ -585,7 +585,7 @@ public final class ArrayBench {
         int tuples(int set) {
             int product = 1;
             for (int c = 0; c < columns; c++) {
-                if ((set >> c & 1) == 1) {
+                if (((set >> c) & 1) == 1) {
                     product *= sizes[c];
                 }
             }
@@ -595,7 +595,7 @@ public final class ArrayBench {
         int tupleOf(int r, int set) {
             int number = 0;
             for (int c = 0; c < columns; c++) {
-                if ((set >> c & 1) == 1) {
+                if (((set >> c) & 1) == 1) {
                     number = number * sizes[c] + at(r, c);
                 }
             }
@@ -824,7 +824,7 @@ public final class ArrayBench {
             int share = count / tuples;
             clearTallies(tuples);
             for (int r = 0; r < table.rows; r++) {
-                if ((rows >> r & 1) == 1) {
+                if (((rows >> r) & 1) == 1) {
                     int tuple = table.tupleOf(r, set);
                     tallies[tuple]++;
                     // A tuple above its share leaves another one below it.
@@ -952,7 +952,7 @@ public final class ArrayBench {
     /** Finds the smallest column that can be appended, row by row. */
     private static final class ColumnSearch {
         final int[] column = new int[EXTENSION_ROWS];
-        private Table table = null;
+        private Table table = new Table();
         private int levels = 0;
         private final int[] equalBefore = new int[EXTENSION_ROWS];
         // How often a new level may still stand beside a level of a column, and at all.
@@ -1078,7 +1078,15 @@ public final class ArrayBench {
             }
             from.start(source);
             to.start(destination);
-            return from.summary(0) == to.summary(0) && assign(0);
+            if (from.summary(0) != to.summary(0)) {
+                return false;
+            }
+            // The labels of this side are the same whatever the images, so its keys are made once.
+            for (int c = 0; c < source.columns; c++) {
+                from.labelColumn(c);
+                from.refine(c + 1);
+            }
+            return assign(0);
         }
 
         private static boolean haveSameSizes(Table a, Table b) {
@@ -1112,7 +1120,7 @@ public final class ArrayBench {
         }
 
         private boolean canMap(int c, int d) {
-            return !to.isAssigned(d) && from.table.sizes[c] == to.table.sizes[d]
+            return !to.isLabelled(d) && from.table.sizes[c] == to.table.sizes[d]
                     && from.columnKeys[c][c] == to.columnKeys[c][d];
         }
 
@@ -1126,11 +1134,12 @@ public final class ArrayBench {
             boolean more = true;
             for (int turn = 0; turn < MATCH_ORDERS && more; turn++) {
                 if (suits(c, d)) {
-                    label(c, d, 1);
-                    if (isPromising(c + 1) && assign(c + 1)) {
+                    labelImages(c, d, true);
+                    to.refine(c + 1);
+                    if (from.summary(c + 1) == to.summary(c + 1) && assign(c + 1)) {
                         return true;
                     }
-                    label(c, d, 0);
+                    labelImages(c, d, false);
                 }
                 more = nextOrder(start, size);
             }
@@ -1155,20 +1164,12 @@ public final class ArrayBench {
             return true;
         }
 
-        private void label(int c, int d, int on) {
-            from.columnLabels[c] = on * (c + 1);
-            to.columnLabels[d] = on * (c + 1);
+        private void labelImages(int c, int d, boolean on) {
+            to.columnLabels[d] = on ? from.columnLabels[c] : 0;
             for (int v = 0; v < from.table.sizes[c]; v++) {
                 int place = c * MATCH_LEVELS + v;
-                from.levelLabels[place] = on * (place + 1);
-                to.levelLabels[d * MATCH_LEVELS + levelImages[place]] = on * (place + 1);
+                to.levelLabels[d * MATCH_LEVELS + levelImages[place]] = on ? from.levelLabels[place] : 0;
             }
-        }
-
-        private boolean isPromising(int depth) {
-            from.refine(depth);
-            to.refine(depth);
-            return from.summary(depth) == to.summary(depth);
         }
 
         /** Makes the next order of the images of a column's levels, lexicographically, if there is one. */
@@ -1201,36 +1202,32 @@ public final class ArrayBench {
 
         /** Keys may be equal by chance, so the whole mapping is proved on the rows. */
         private boolean mapsRows() {
-            int usedRows = 0;
+            int used = 0;
             for (int r = 0; r < from.table.rows; r++) {
                 for (int c = 0; c < from.table.columns; c++) {
                     mappedRow[columnImages[c]] = levelImages[c * MATCH_LEVELS + from.table.at(r, c)];
                 }
-                int q = unusedEqual(usedRows);
+                int q = unusedEqual(used);
                 if (q < 0) {
                     return false;
                 }
-                usedRows |= 1 << q;
+                used |= 1 << q;
             }
             return true;
         }
 
-        private int unusedEqual(int usedRows) {
+        /** A row of the other array that is not used yet and equal to the mapped row, or -1. */
+        private int unusedEqual(int used) {
             for (int q = 0; q < to.table.rows; q++) {
-                if ((usedRows >> q & 1) == 0 && isMappedRow(q)) {
+                boolean fits = ((used >> q) & 1) == 0;
+                for (int d = 0; d < to.table.columns && fits; d++) {
+                    fits = to.table.at(q, d) == mappedRow[d];
+                }
+                if (fits) {
                     return q;
                 }
             }
             return -1;
-        }
-
-        private boolean isMappedRow(int q) {
-            for (int d = 0; d < to.table.columns; d++) {
-                if (to.table.at(q, d) != mappedRow[d]) {
-                    return false;
-                }
-            }
-            return true;
         }
     }
 
@@ -1240,7 +1237,7 @@ public final class ArrayBench {
      * The keys of depth n go with n labelled columns.
      */
     private static final class Side {
-        Table table = null;
+        Table table = new Table();
         final int[] columnLabels = new int[MAX_COLUMNS];
         final int[] levelLabels = new int[MAX_COLUMNS * MATCH_LEVELS];
         final int[] tallies = new int[MAX_COLUMNS * MATCH_LEVELS];
@@ -1252,14 +1249,20 @@ public final class ArrayBench {
         void start(Table given) {
             table = given;
             clearLabels();
+            long[] keys = rowKeys[0];
             for (int r = 0; r < table.rows; r++) {
-                rowKeys[0][r] = 0;
-                for (int q = 0; q < table.rows; q++) {
-                    rowKeys[0][r] += mix(table.agreements(r, q));
+                keys[r] = 0;
+                for (int q = 0; q < r; q++) {
+                    long key = mix(table.agreements(r, q));
+                    keys[r] += key;
+                    keys[q] += key;
                 }
                 for (int c = 0; c < table.columns; c++) {
                     tallies[c * MATCH_LEVELS + table.at(r, c)]++;
                 }
+            }
+            for (int r = 0; r < table.rows; r++) {
+                keys[r] = mix(keys[r]);
             }
             refine(0);
         }
@@ -1274,7 +1277,14 @@ public final class ArrayBench {
             }
         }
 
-        boolean isAssigned(int c) {
+        void labelColumn(int c) {
+            columnLabels[c] = c + 1;
+            for (int v = 0; v < table.sizes[c]; v++) {
+                levelLabels[c * MATCH_LEVELS + v] = v + 1;
+            }
+        }
+
+        boolean isLabelled(int c) {
             return columnLabels[c] != 0;
         }
 
@@ -1287,59 +1297,61 @@ public final class ArrayBench {
             gather(rowKeys[depth], levelKeys[depth], columnKeys[depth]);
         }
 
-        /** The keys of levels from those of their rows, and the keys of columns from those of their levels. */
+        /** The keys of columns and levels from the keys of the rows. */
         private void gather(long[] ofRows, long[] ofLevels, long[] ofColumns) {
             for (int c = 0; c < table.columns; c++) {
                 int start = c * MATCH_LEVELS;
-                for (int v = 0; v < table.sizes[c]; v++) {
-                    ofLevels[start + v] = 0;
+                int end = start + table.sizes[c];
+                for (int place = start; place < end; place++) {
+                    ofLevels[place] = 0;
                 }
                 for (int r = 0; r < table.rows; r++) {
-                    ofLevels[start + table.at(r, c)] += mix(ofRows[r]);
+                    ofLevels[start + table.at(r, c)] += ofRows[r];
                 }
-                long sum = 0;
-                for (int v = 0; v < table.sizes[c]; v++) {
-                    ofLevels[start + v] = mix(ofLevels[start + v] + levelLabels[start + v]);
-                    sum += ofLevels[start + v];
+                long sum = table.sizes[c] * (MAX_COLUMNS + 1) + columnLabels[c];
+                for (int place = start; place < end; place++) {
+                    ofLevels[place] = mix(ofLevels[place] + levelLabels[place]);
+                    sum += ofLevels[place];
                 }
-                ofColumns[c] = mix(sum + table.sizes[c] * MAX_COLUMNS + columnLabels[c]);
-                for (int v = 0; v < table.sizes[c]; v++) {
-                    ofLevels[start + v] = mix(ofLevels[start + v] + ofColumns[c]);
+                ofColumns[c] = mix(sum);
+                for (int place = start; place < end; place++) {
+                    ofLevels[place] = mix(ofLevels[place] + ofColumns[c]);
                 }
             }
         }
 
+        /** The keys of the rows from the keys of their levels. */
         private void spread(long[] ofRows, long[] ofLevels) {
             for (int r = 0; r < table.rows; r++) {
-                long sum = mix(ofRows[r]);
+                long sum = ofRows[r];
                 for (int c = 0; c < table.columns; c++) {
                     sum += ofLevels[c * MATCH_LEVELS + table.at(r, c)];
                 }
-                ofRows[r] = sum;
+                ofRows[r] = mix(sum);
             }
         }
 
         long summary(int depth) {
             long sum = 0;
             for (int r = 0; r < table.rows; r++) {
-                sum += mix(rowKeys[depth][r]);
+                sum += rowKeys[depth][r];
             }
             for (int c = 0; c < table.columns; c++) {
-                sum += mix(columnKeys[depth][c] + 1);
+                sum += columnKeys[depth][c];
             }
             return sum;
         }
 
         private static long mix(long key) {
             long mixed = (key + 1) * 0x9E3779B97F4A7C15L;
-            mixed = (mixed ^ mixed >>> 32) * 0xD6E8FEB86659FD93L;
-            return mixed ^ mixed >>> 32;
+            mixed = (mixed ^ (mixed >>> 32)) * 0xD6E8FEB86659FD93L;
+            return mixed ^ (mixed >>> 32);
         }
 
         /** Whether one of the tried columns parts the rows as this one does: then this one fares no better. */
         boolean hasTwin(int d, int tried) {
             for (int e = 0; e < d; e++) {
-                if ((tried >> e & 1) == 1 && areTwins(d, e)) {
+                if (((tried >> e) & 1) == 1 && areTwins(d, e)) {
                     return true;
                 }
             }
@@ -1357,7 +1369,7 @@ public final class ArrayBench {
             for (int r = 0; r < table.rows; r++) {
                 int v = table.at(r, d);
                 int w = table.at(r, e);
-                if (levelTwins[v] < 0 && (taken >> w & 1) == 0) {
+                if (levelTwins[v] < 0 && ((taken >> w) & 1) == 0) {
                     levelTwins[v] = w;
                     taken |= 1 << w;
                 }
