@@ -1119,6 +1119,7 @@ public final class ArrayBench {
             return false;
         }
 
+        /** When column c is assigned, c columns are labelled, so c is the depth too. */
         private boolean canMap(int c, int d) {
             return !to.isLabelled(d) && from.table.sizes[c] == to.table.sizes[d]
                     && from.columnKeys[c][c] == to.columnKeys[c][d];

@@ -77,7 +77,7 @@ public final class ModelTest {
         }
 
         private void step() {
-            switch (numbers.below(41)) {
+            switch (numbers.below(42)) {
                 case 0 -> begin();
                 case 1, 2 -> addColumn();
                 case 3 -> {
@@ -126,6 +126,7 @@ public final class ModelTest {
                 case 36 -> replaceByKept();
                 case 37 -> spareOfStack();
                 case 38, 39 -> extendBalanced();
+                case 40 -> compareRegular();
                 default -> loadRandom();
             }
         }
@@ -399,6 +400,35 @@ public final class ModelTest {
                     }
                 }
             }
+        }
+
+        /** Sums of the columns of a factorial, some of them several times: counts alone tell little of these. */
+        private void compareRegular() {
+            int size = 2 + numbers.below(2);
+            int factors = size == 2 ? 2 + numbers.below(3) : 2;
+            List<int[]> sums = new ArrayList<>();
+            List<Integer> sizes = new ArrayList<>();
+            for (int c = 2 + numbers.below(5); c > 0; c--) {
+                int[] sum = new int[factors];
+                for (int k = 0; k < factors; k++) {
+                    sum[k] = numbers.below(size);
+                }
+                sums.add(sums.isEmpty() || numbers.chance(80) ? sum : sums.get(0));
+                sizes.add(size);
+            }
+            List<int[]> rows = new ArrayList<>();
+            for (int r = 0; r < Math.pow(size, factors); r++) {
+                int[] cells = new int[sums.size()];
+                for (int c = 0; c < cells.length; c++) {
+                    for (int rest = r, k = 0; k < factors; k++) {
+                        cells[c] = (cells[c] + rest % size * sums.get(c)[k]) % size;
+                        rest /= size;
+                    }
+                }
+                rows.add(cells);
+            }
+            loadText(sizes, rows);
+            disguise();
         }
 
         /** Keeps the array, then loads it with its rows, columns and levels mixed, and sometimes a cell changed. */

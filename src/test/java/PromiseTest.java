@@ -883,7 +883,23 @@ public final class PromiseTest {
         due("18 rows without columns", x.isIsomorphic(0), 1);
         x.begin(17);
         due("17 rows without columns", x.isIsomorphic(0), 0);
+        largeImages();
         copiesAndStructures();
+    }
+
+    /** Only the array's own rows and levels are limited, not those of the image. */
+    private static void largeImages() {
+        ArrayBench x = bench("4444446/0000005/0000005");
+        x.keep(0);
+        show(x, "4444444/0000003/0000003");
+        due("an image with 6 levels", x.isIsomorphic(0), 0);
+        due("the list of none", x.mapped(0, 6, 3), NONE);
+        x.factorial(66);
+        x.keep(1);
+        show(x, "44/33/33");
+        due("an image with 36 rows", x.isIsomorphic(1), 0);
+        x.begin(18);
+        due("an image with columns", x.isIsomorphic(1), 0);
     }
 
     private static void copiesAndStructures() {
