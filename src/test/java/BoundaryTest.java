@@ -23,8 +23,8 @@ public final class BoundaryTest {
     private static final int MOST_STATES = 8;
     private static final int LEAST = Integer.MIN_VALUE, MOST = Integer.MAX_VALUE;
     private static final Pattern ITEM = Pattern.compile("(?:(\\d+) x )?(\\w+)\\((.*)\\)");
-    private static final Set<String> QUESTIONS = Set.of("fault", "told", "levels", "cell", "count", "audit", "agreement",
-            "pairs", "extension", "spare", "isIsomorphic", "mapped");
+    private static final Set<String> QUESTIONS = Set.of("fault", "told", "levels", "cell", "count", "audit",
+            "agreement", "pairs", "extension", "spare", "isIsomorphic", "mapped");
     private static final Map<String, Method> METHODS = new HashMap<>();
 
     private static final String FULL_HISTORY = "9 x begin(5); begin(0)";
@@ -76,6 +76,8 @@ public final class BoundaryTest {
         back();
         isIsomorphic();
         mapped();
+        refusals();
+        refusalsOfFullArrays();
         for (int number = 1; number <= PROMISES; number++) {
             if (!tested.contains(number)) {
                 complain("promise " + number + " has no test");
@@ -141,11 +143,30 @@ public final class BoundaryTest {
         }
         view.add(told.append(", fault ").append(bench.answer("fault()")).toString());
         view.add("array " + text(run));
+        view.add("found " + found(run));
         view.add("states " + history(run));
         for (String restore : new String[] {"back(0)", "back(1)", "load()"}) {
             view.add(restore + " " + new Bench(run).answer(restore) + " " + text(joined(run, restore)));
         }
         return view;
+    }
+
+    /** What is searched for, and might be kept from a search before. */
+    private static String found(String run) {
+        Bench bench = new Bench(run);
+        StringBuilder found = new StringBuilder();
+        for (int levels = 2; levels <= 3; levels++) {
+            for (int r = -1; r < 4; r++) {
+                found.append(' ').append(bench.answer("extension(" + levels + ", " + r + ")"));
+            }
+        }
+        for (int i = 0; i <= 1; i++) {
+            found.append(' ').append(bench.answer("isIsomorphic(" + i + ")"));
+            for (int v = -1; v < 2; v++) {
+                found.append(' ').append(bench.answer("mapped(" + i + ", 0, " + v + ")"));
+            }
+        }
+        return found.toString();
     }
 
     /** The arrays that undo() brings back, the latest first. */
@@ -450,6 +471,7 @@ public final class BoundaryTest {
         dueArray(FULL_ARRAY + "; dropCopies()", "6666666/0000000");
         due(FULL_ARRAY + "; put(35, 6, 1)", "dropCopies()", 34);
         due("array(2222222/0000000/0000001)", "dropCopies()", 0);
+        due("array(22/00/01); dropColumn(1)", "dropCopies()", 1);
         due("array(2222222/0000000/1000000)", "dropCopies()", 0);
         dueArray("array(23/12/00/12/01/00/12); dropCopies()", "23/12/00/01");
         sentence(7, "This is a change");
@@ -469,6 +491,7 @@ public final class BoundaryTest {
         due("array(2/0/1)", "sort()", 0);
         due("array(2222222/0000001/0000000)", "sort()", 1);
         due("array(66" + descendingPairs() + ")", "sort()", 630);
+        due("array(22/01/00); dropColumn(1)", "sort()", 0);
         sentence(8, "Sorts the rows in ascending order");
         dueArray("array(66" + descendingPairs() + "); sort()", text("factorial(66)"));
         dueArray("array(26/05/10/04/15); sort()", "26/04/05/10/15");
@@ -790,6 +813,8 @@ public final class BoundaryTest {
         due(FULL_TEXT + "; wipe()", "told(8)", 0);
         due(FULL_TEXT + "; wipe()", "fault()", 0);
         due("type(33/12); wipe(); type(2/1)", "fault()", NONE);
+        due("type(22/10/01); wipe(); type(22/1)", "fault()", 4);
+        due("type(22/10/01); wipe(); type(22/10/)", "fault()", 6);
         dueArray("type(33/12); wipe(); type(2/1); load()", "2/1");
         sentence(15, "is no change");
         isNoChange(SQUARE, "wipe()");
@@ -980,6 +1005,7 @@ public final class BoundaryTest {
         due("begin(1)", "told(3)", 0);
         due("begin(36)", "told(3)", 35);
         due(FULL_ARRAY, "told(3)", 35);
+        due("array(22/00/01); dropColumn(1)", "told(3)", 1);
         due(FULL_ARRAY + "; put(0, 0, 1)", "told(3)", 34);
         due(FULL_ARRAY + "; put(35, 6, 5)", "told(3)", 34);
         due("factorial(66)", "told(3)", 0);
@@ -1158,6 +1184,11 @@ public final class BoundaryTest {
         due("factorial(66); dropRow(35)", "audit(1, 3)", 5);
         due("factorial(66); dropRow(35)", "audit(1, 2)", 6);
         due("array(66666/55555/00000/55555)", "audit(5, 2)", 2);
+        due("array(66666/55555/55555/00000)", "audit(5, 2)", 2);
+        due("array(66666/00000/55555/55555)", "audit(5, 2)", 2);
+        due("array(66666/00000/55555)", "audit(5, 2)", 1);
+        due("array(66666/00000/55555)", "audit(5, 3)", 0);
+        due("array(66666/00000/00000); audit(5, 2); put(1, 4, 5)", "audit(5, 2)", 1);
         due("array(26/00/01/12)", "audit(1, 2)", 2);
         due("array(62/00/10/20/30/41/51)", "audit(1, 3)", 1);
         due("array(62/00/10/20/30/41/51)", "audit(1, 2)", 4);
@@ -1263,6 +1294,11 @@ public final class BoundaryTest {
         due("array(2/0/0/0/1)", "extension(2, 0)", NONE);
         due("factorial(44); addSum(0, 1, 1, 1)", "extension(4, -1)", NONE);
         due("array(2222222/0000000)", "extension(2, 0)", NONE);
+        due("begin(4); extension(2, -1); begin(3)", "extension(2, -1)", NONE);
+        due("begin(4); extension(2, -1)", "extension(3, -1)", NONE);
+        due("begin(4); extension(3, -1)", "extension(2, -1)", 4);
+        due(SQUARE + "; extension(2, -1); put(0, 0, 1)", "extension(2, -1)", NONE);
+        due(SQUARE + "; put(0, 0, 1); extension(2, -1); undo()", "extension(2, 1)", 1);
         sentence(25, "and in the new column alone: an array without columns");
         due("begin(2)", "extension(2, 0)", 0);
         due("begin(2)", "extension(2, 1)", 1);
@@ -1588,5 +1624,57 @@ public final class BoundaryTest {
         dueList("array(33/02/11/20); keep(0); array(33/00/11/22)", 0, "00121210");
         dueList("array(444/000/001); keep(0); array(444/300/000)", 0, "202310012310123");
         dueList("array(32/21/00/11); keep(0); array(23/00/01/12)", 0, "1100120");
+    }
+
+    // ---- refused calls
+
+    /** Eight states, two images, a text with a fault, and a column and an isomorphism that have been found. */
+    private static void refusals() {
+        String full = FULL_HISTORY + "; begin(3); array(3/0/1/2); keep(1); array(22/00/10/01/11); keep(0);"
+                + " array(22/11/10/00/01); write(47); extension(2, 0); mapped(0, 0, 0)";
+        String[] refused = {"2 begin(37)", "3 addColumn(7)", "4 dropColumn(2)", "5 put(0, 0, 2)", "5 put(4, 0, 0)",
+            "5 put(0, 2, 0)", "6 dropRow(4)", "9 factorial(27)", "9 factorial(22222222)", "10 addSum(2, 1, 0, 1)",
+            "10 addSum(0, 6, 1, 1)", "11 replace(2, 0)", "11 replace(0, 2)", "14 write(31)", "14 write(127)",
+            "18 told(9)", "19 levels(2)", "20 cell(4, 0)", "20 cell(0, 2)", "21 count(4, 0)", "21 count(3, 4)",
+            "22 audit(3, 0)", "22 audit(2, 4)", "23 agreement(0, 4)", "24 pairs(8)", "25 extension(7, 0)",
+            "25 extension(2, 4)", "26 extend(7)", "27 spare(3)", "27 spare(0)", "28 keep(2)", "29 back(2)",
+            "30 isIsomorphic(2)", "31 mapped(0, 0, 2)", "31 mapped(2, 0, 0)"};
+        for (String call : refused) {
+            sentence(Integer.parseInt(call.split(" ")[0]), "A call that returns BAD changes nothing");
+            due(full, call.substring(call.indexOf(' ') + 1), BAD);
+        }
+        sentence(9, "A call that returns FULL changes nothing");
+        due(full, "factorial(666)", FULL);
+        sentence(11, "A call that returns STATE changes nothing");
+        due(full, "replace(0, 0)", STATE);
+        due(full, "replace(1, 1)", STATE);
+        sentence(17, "A call that returns STATE changes nothing");
+        due(full, "load()", STATE);
+        sentence(12, "A call that returns STATE changes nothing");
+        due(full + "; put(0, 0, 0)", "develop()", STATE);
+    }
+
+    private static void refusalsOfFullArrays() {
+        String full = "array(2/0/1); keep(0); array(22/00/11); keep(1); begin(36); 7 x addColumn(2); put(35, 6, 1);"
+                + " write(47)";
+        String[] refused = {"3 addColumn(2)", "10 addSum(0, 1, 1, 1)", "11 replace(6, 1)"};
+        for (String call : refused) {
+            sentence(Integer.parseInt(call.split(" ")[0]), "A call that returns FULL changes nothing");
+            due(full, call.substring(call.indexOf(' ') + 1), FULL);
+        }
+        String[] impossible = {"12 develop()", "17 load()", "25 extension(2, 35)", "26 extend(2)", "27 spare(7)",
+            "30 isIsomorphic(0)", "31 mapped(1, 6, 1)"};
+        for (String call : impossible) {
+            sentence(Integer.parseInt(call.split(" ")[0]), "A call that returns STATE changes nothing");
+            due(full, call.substring(call.indexOf(' ') + 1), STATE);
+        }
+        sentence(12, "A call that returns FULL changes nothing");
+        due("array(2/0/1); keep(0); begin(19); addColumn(2); put(18, 0, 1)", "develop()", FULL);
+        sentence(14, "A call that returns FULL changes nothing");
+        due("array(2/0/1); wipe(); type(2" + "/0".repeat(36) + "); 227 x write(48)", "write(48)", FULL);
+        sentence(26, "A call that returns FULL changes nothing");
+        due("array(2222222/0000000/1111111); extension(2, 0)", "extend(2)", FULL);
+        sentence(29, "A call that returns STATE changes nothing");
+        due("array(2/0/1); keep(0); begin(3)", "back(1)", STATE);
     }
 }
