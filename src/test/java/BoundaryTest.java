@@ -495,6 +495,14 @@ public final class BoundaryTest {
         sentence(8, "Sorts the rows in ascending order");
         dueArray("array(66" + descendingPairs() + "); sort()", text("factorial(66)"));
         dueArray("array(26/05/10/04/15); sort()", "26/04/05/10/15");
+        dueArray("array(2222223/1000002/0111110); sort()", "2222223/0111110/1000002");
+        sentence(8, "a full array");
+        due(FULL_ARRAY + "; put(0, 0, 5)", "sort()", 35);
+        due(FULL_ARRAY + "; put(0, 0, 5); sort()", "cell(35, 0)", 5);
+        due(FULL_ARRAY + "; put(0, 0, 5); sort()", "count(127, 0)", 35);
+        due(FULL_ARRAY + "; put(35, 6, 5)", "sort()", 0);
+        due(FULL_ARRAY + "; put(34, 6, 5); sort()", "cell(35, 6)", 5);
+        due(FULL_ARRAY + "; put(34, 6, 5); sort()", "count(127, 0)", 35);
         sentence(8, "This is a change");
         isChange("", "sort()");
         isChange(SQUARE, "sort()");
@@ -1190,6 +1198,9 @@ public final class BoundaryTest {
         due("array(66666/00000/55555)", "audit(5, 3)", 0);
         due("array(66666/00000/00000); audit(5, 2); put(1, 4, 5)", "audit(5, 2)", 1);
         due("array(26/00/01/12)", "audit(1, 2)", 2);
+        due("array(2/0/1/1)", "audit(1, 2)", 2);
+        due("array(2/0/1/1)", "audit(1, 3)", 1);
+        due("array(2/0/0/1)", "audit(1, 3)", 1);
         due("array(62/00/10/20/30/41/51)", "audit(1, 3)", 1);
         due("array(62/00/10/20/30/41/51)", "audit(1, 2)", 4);
         sentence(22, "In an array without rows, each tuple occurs in none");
@@ -1253,6 +1264,8 @@ public final class BoundaryTest {
         due("begin(6)", "extension(1, 0)", BAD);
         due("begin(6)", "extension(2, 5)", 1);
         due("begin(6)", "extension(6, 5)", 5);
+        due("array(2" + "/0".repeat(6) + "/1".repeat(6) + ")", "extension(6, 5)", 5);
+        due("array(2" + "/0".repeat(6) + "/1".repeat(6) + ")", "extension(6, 6)", 0);
         due("begin(6)", "extension(7, 0)", BAD);
         due("begin(6)", "extension(0, -1)", BAD);
         due("begin(6)", "extension(" + LEAST + ", 0)", BAD);
@@ -1295,6 +1308,11 @@ public final class BoundaryTest {
         due("factorial(44); addSum(0, 1, 1, 1)", "extension(4, -1)", NONE);
         due("array(2222222/0000000)", "extension(2, 0)", NONE);
         due("begin(4); extension(2, -1); begin(3)", "extension(2, -1)", NONE);
+        due("array(222/000/011/101/110); extension(2, -1); begin(3)", "extension(2, -1)", NONE);
+        due("array(222" + "/000/011/101/110".repeat(2) + "); extend(4); extension(4, -1); array(2/0/0/0/1)",
+                "extension(2, -1)", NONE);
+        due("factorial(222); addSum(0, 1, 1, 1); addSum(0, 1, 2, 1); addSum(1, 1, 2, 1); addSum(3, 1, 2, 1);"
+                + " extension(2, -1); array(2/0/0/0/1)", "extension(2, -1)", NONE);
         due("begin(4); extension(2, -1)", "extension(3, -1)", NONE);
         due("begin(4); extension(3, -1)", "extension(2, -1)", 4);
         due(SQUARE + "; extension(2, -1); put(0, 0, 1)", "extension(2, -1)", NONE);
